@@ -30,7 +30,9 @@ public final class ReviveKernel {
     private static final int LETTER_PLACES = SLOTS * LETTERS_EACH;
 
     private static final int WORDS = 16;
+    private static final int ALL_WORDS = SLOTS * WORDS;
     private static final int GRANTS = 4;
+    private static final int ALL_GRANTS = SLOTS * GRANTS;
     private static final int LONGEST_CHAIN = 4;
     private static final int NOT_GRANTED = 0, READ = 1, WRITE = 2, BOTH = 3, PASSED = 4;
 
@@ -43,6 +45,7 @@ public final class ReviveKernel {
     private static final int TOTALS = 7;
 
     private static final int GOT_PARTS = 3;
+    private static final int ALL_GOT_PARTS = SLOTS * GOT_PARTS;
 
     // By slots. Without a process, endpoint is the one that the next process there will have.
     private final int[] endpoint = new int[SLOTS];
@@ -58,8 +61,8 @@ public final class ReviveKernel {
     private final int[] noteBits = new int[SLOTS];
     private final int[] alarmLeft = new int[SLOTS];
     private final int[] watchedBits = new int[SLOTS];
-    private final int[] latestGot = new int[SLOTS * GOT_PARTS];
-    private final int[] words = new int[SLOTS * WORDS];
+    private final int[] latestGot = new int[ALL_GOT_PARTS];
+    private final int[] words = new int[ALL_WORDS];
 
     // Who came earlier, into a row or into a queue, has the lesser number.
     private final long[] since = new long[SLOTS];
@@ -71,12 +74,12 @@ public final class ReviveKernel {
     private final int[] letterValue = new int[LETTER_PLACES];
 
     // By granters; first and length are of lent ones, source and number of passed ones.
-    private final int[] grantKind = new int[SLOTS * GRANTS];
-    private final int[] grantTo = new int[SLOTS * GRANTS];
-    private final int[] grantFirst = new int[SLOTS * GRANTS];
-    private final int[] grantLength = new int[SLOTS * GRANTS];
-    private final int[] grantSource = new int[SLOTS * GRANTS];
-    private final int[] grantNumber = new int[SLOTS * GRANTS];
+    private final int[] grantKind = new int[ALL_GRANTS];
+    private final int[] grantTo = new int[ALL_GRANTS];
+    private final int[] grantFirst = new int[ALL_GRANTS];
+    private final int[] grantLength = new int[ALL_GRANTS];
+    private final int[] grantSource = new int[ALL_GRANTS];
+    private final int[] grantNumber = new int[ALL_GRANTS];
 
     // A service without a life is none; one without a slot (-1) is DOWN.
     private final int[] serviceLife = new int[SERVICES];
@@ -175,7 +178,8 @@ public final class ReviveKernel {
         }
         int other = slotOf(to);
         if (takes(other, endpoint[me], LETTER)) {
-            wakeWith(other, endpoint[me], LETTER, x);
+            putInto(other, endpoint[me], LETTER, x);
+            makeReady(other);
             return FINE;
         }
         comings++;
@@ -598,11 +602,6 @@ public final class ReviveKernel {
         totals[TOTAL_GOT + sort]++;
     }
 
-    private void wakeWith(int slot, int source, int sort, int value) {
-        putInto(slot, source, sort, value);
-        makeReady(slot);
-    }
-
     private int handMessage(int to, int x, boolean calls) {
         int me = runningSlot();
         int refused = refusalToReach(me, to);
@@ -611,7 +610,8 @@ public final class ReviveKernel {
         }
         int other = slotOf(to);
         if (takes(other, endpoint[me], MESSAGE)) {
-            wakeWith(other, endpoint[me], MESSAGE, x);
+            putInto(other, endpoint[me], MESSAGE, x);
+            makeReady(other);
             if (!calls) {
                 return FINE;
             }
@@ -669,7 +669,8 @@ public final class ReviveKernel {
     private void bringNote(int slot, int place) {
         int source = noteSource(place);
         if (takes(slot, source, NOTE)) {
-            wakeWith(slot, source, NOTE, 0);
+            putInto(slot, source, NOTE, 0);
+            makeReady(slot);
         } else {
             noteBits[slot] |= 1 << place;
         }
@@ -815,6 +816,7 @@ public final class ReviveKernel {
         for (int k = 0; k < SERVICES; k++) {
             if (stepService(k)) {
                 begun++;
+                tellWatchers(k);
             }
         }
         return begun;
@@ -892,7 +894,6 @@ public final class ReviveKernel {
         serviceBorn[k] = time;
         serviceHeard[k] = time;
         serviceBegun[k]++;
-        tellWatchers(k);
         return true;
     }
 

@@ -42,6 +42,7 @@ public final class ServicesTest {
             Due.due("close " + k, x.close(k), false);
             Due.due("service " + k, x.service(k, 0), BAD);
         }
+        Due.due("least numbers", x.serve(1, 0, 2), 0);
         Due.due("serve", x.serve(0, 3, 50), 0);
         Due.due("what -1", x.service(0, -1), BAD);
         Due.due("what 4", x.service(0, 4), BAD);
@@ -233,6 +234,19 @@ public final class ServicesTest {
         x.end(0);
         Due.due("close while DOWN", x.close(0), true);
         Due.due("none begins", x.tick(5), 0);
+
+        ReviveKernel y = new ReviveKernel();
+        y.serve(0, 1, 50);
+        y.tick(1);
+        for (int pause = 1; pause <= 4; pause *= 2) {
+            y.end(0);
+            y.tick(pause);
+        }
+        y.end(0);
+        Due.due("due in eight ticks", y.tick(1), 0);
+        y.close(0);
+        y.serve(0, 1, 50);
+        Due.due("a new one is due at the next tick", y.tick(1), 1);
     }
 
     private static void noSlotIsFree() {

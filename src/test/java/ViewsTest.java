@@ -38,14 +38,30 @@ public final class ViewsTest {
         x.birth(2, 1023);
         x.receive(ANY, true);
         x.birth(1, 1023);
+        x.birth(3, 1023);
         x.send(0, 9);
         x.alarm(7);
-        x.send(0, 9);
+        x.tick(4);
+        x.post(1, 8);
+        x.receive(1, true);
+        x.receive(0, true);
+        x.send(2, 7);
+        x.end(2);
+        Due.due("the one before got a letter", x.at(1, 12), 8);
+        Due.due("and waited in vain", x.at(1, 13), ReviveKernel.STALE);
+        x.post(0, 6);
+        x.note(0);
         x.end(1);
+        x.end(0);
+        x.birth(0, 0);
         x.birth(3, 0);
         int[] due = {17, 1, 17, 3, 4, 0, 0, 0, 0, 0, 0, 0, 0, 0, 0};
         for (int what = 0; what < due.length; what++) {
             Due.due("new one " + what, x.at(1, what), due[what]);
+        }
+        x.tick(1);
+        for (int what = 0; what < due.length; what++) {
+            Due.due("new one a tick later " + what, x.at(1, what), due[what]);
         }
     }
 
