@@ -28,6 +28,8 @@ public final class EdgesOfTimeTest {
         relievedOnesComeLast();
         baseOnesKeepTheirPlaces();
         waitingOnesToo();
+        reliefLeavesTicks();
+        reliefLeavesQueues();
         fourthAndEighthAtOnce();
         reliefThenAlarms();
         Due.close("EdgesOfTimeTest");
@@ -462,6 +464,40 @@ public final class EdgesOfTimeTest {
             x.tick(8);
             Due.due("at 16", x.at(0, 3), 1);
         }
+    }
+
+    // "the PRIORITIES .. are one less": the TICKS are as they were.
+    private static void reliefLeavesTicks() {
+        ReviveKernel x = Scene.of(0, 1);
+        x.tick(4);
+        x.receive(ANY, true);
+        Due.due("0 runs in row 1", x.running(), 0);
+        x.tick(2);
+        x.birth(0, 1023);
+        x.tick(1);
+        Due.due("TICKS", x.at(0, 4), 2);
+        x.tick(1);
+        Due.due("it fell, READY", x.at(0, 3), 0);
+        Due.due("TICKS as before", x.at(0, 4), 2);
+        ReviveKernel y = Scene.of(0);
+        y.tick(5);
+        y.receive(ANY, true);
+        y.tick(3);
+        Due.due("it fell, waiting", y.at(0, 3), 0);
+        Due.due("TICKS as before", y.at(0, 4), 3);
+    }
+
+    // A new PRIORITY is no coming into a queue.
+    private static void reliefLeavesQueues() {
+        ReviveKernel x = Scene.of(0, 2, 3);
+        x.tick(4);
+        Due.due("0 sends first", x.send(2, 10), BLOCKED);
+        Due.due("1 sends then", x.send(2, 11), BLOCKED);
+        x.tick(4);
+        Due.due("0 fell", x.at(0, 3), 0);
+        Due.due("a message", x.receive(ANY, true), 0);
+        Due.due("of the one that came first", x.at(2, 12), 10);
+        Due.due("READY, it is in its new row", x.running(), 0);
     }
 
     private static void fourthAndEighthAtOnce() {
